@@ -221,7 +221,7 @@ public final class ClauseCourt {
     public int line(int row, int i) {
         if (row >= LEARNT_FROM) {
             int k = row - LEARNT_FROM;
-            return k < latest.tally[4] ? latest.board.rows.tell(latest.board.learntFrom + k, i) : NONE;
+            return k < latest.tally[Solver.LEARNINGS] ? latest.board.rows.tell(latest.board.learntFrom + k, i) : NONE;
         }
         return row >= BARRED_FROM ? latest.bars.tell(row - BARRED_FROM, i) : court.rows.tell(row, i);
     }
@@ -408,7 +408,7 @@ public final class ClauseCourt {
         for (int tries = coreRowTotal + coreItemTotal; tries > 0; tries--) {
             layWithout(place);
             int said = beside.go(given);
-            given -= beside.tally[1];
+            given -= beside.tally[Solver.STEPS];
             if (said != YES && said != NO) {
                 return said;
             }
@@ -436,7 +436,7 @@ public final class ClauseCourt {
                 }
                 laySet(set);
                 int said = beside.go(given);
-                given -= beside.tally[1];
+                given -= beside.tally[Solver.STEPS];
                 if (said == NO) {
                     keepSet(set);
                     return coreRowTotal;
@@ -542,7 +542,7 @@ public final class ClauseCourt {
         int given = steps;
         for (int times = 0; times < most; times++) {
             int said = beside.another(court, given);
-            given -= beside.tally[1];
+            given -= beside.tally[Solver.STEPS];
             if (said != YES) {
                 return said == NO ? times : said;
             }
@@ -645,11 +645,11 @@ public final class ClauseCourt {
     }
 
     private boolean saidYes() {
-        return latest.tally[0] == YES;
+        return latest.tally[Solver.SAID] == YES;
     }
 
     private boolean saidNo() {
-        return latest.tally[0] == NO && !byNext;
+        return latest.tally[Solver.SAID] == NO && !byNext;
     }
 
     private Rule ruleAt(int rule) {
@@ -732,7 +732,7 @@ public final class ClauseCourt {
 
     private void keepCore() {
         coreRowTotal = 0;
-        int last = latest.tally[8] - 1;
+        int last = latest.tally[Solver.RECORDED] - 1;
         for (int k = 0; k < court.rows.total && k < CASE_ROWS; k++) {
             if (latest.hasSource(last, k)) {
                 coreRows[coreRowTotal] = k;
@@ -1706,6 +1706,9 @@ public final class ClauseCourt {
 
         void assign(int v, int reason) {
             int n = Math.abs(v);
+            if (n == 0 || n > MOST_NAMES || trailTotal >= trail.length) {
+                return;
+            }
             values[n] = v > 0 ? 1 : -1;
             levels[n] = level;
             reasons[n] = reason;
@@ -1816,6 +1819,17 @@ public final class ClauseCourt {
         private static final long FIRST_RISE = 64;
         private static final int IN_SET = 1;
         private static final int WAS_IN_SET = 2;
+        /** The places of tally are those that solved() is asked for. */
+        private static final int SAID = 0;
+        private static final int STEPS = 1;
+        private static final int FORCED = 2;
+        private static final int DECIDED = 3;
+        private static final int LEARNINGS = 4;
+        private static final int ANEWS = 5;
+        private static final int WENT = 6;
+        private static final int THERE = 7;
+        private static final int RECORDED = 8;
+        private static final int TOP_LEVEL = 9;
 
         private final Board board = new Board();
         private final Rows bars = new Rows(MOST_BARRED, MOST_BARRED * MOST_COUNTED);
@@ -1829,6 +1843,7 @@ public final class ClauseCourt {
         private final long[] nameSources = new long[(MOST_NAMES + 1) * WORDS];
         private final long[] gathered = new long[WORDS];
         private final int[] tally = new int[10];
+        /** The QUARREL, by the places that quarrel() is asked for. */
         private final int[] clash = new int[5];
         private final int[] marks = new int[MOST_NAMES + 1];
         private final int[] fresh = new int[MOST_NAMES + 1];
@@ -1841,7 +1856,7 @@ public final class ClauseCourt {
         private int since;
 
         Solver() {
-            tally[0] = NONE;
+            tally[SAID] = NONE;
             Arrays.fill(clash, NONE);
         }
 
@@ -1916,7 +1931,7 @@ public final class ClauseCourt {
                     said = choose(given > 0);
                 }
             }
-            tally[0] = said;
+            tally[SAID] = said;
             return said;
         }
 
@@ -1949,10 +1964,10 @@ public final class ClauseCourt {
 
         private int decide(int v) {
             board.level++;
-            tally[9] = Math.max(tally[9], board.level);
+            tally[TOP_LEVEL] = Math.max(tally[TOP_LEVEL], board.level);
             board.assign(v, -1);
-            tally[1]++;
-            tally[3]++;
+            tally[STEPS]++;
+            tally[DECIDED]++;
             return GOES_ON;
         }
 
@@ -1962,8 +1977,8 @@ public final class ClauseCourt {
             if (board.level == 0) {
                 keepNameSources(Math.abs(v), slot);
             }
-            tally[1]++;
-            tally[2]++;
+            tally[STEPS]++;
+            tally[FORCED]++;
             return GOES_ON;
         }
 
@@ -1986,13 +2001,13 @@ public final class ClauseCourt {
             goBack();
             clash[2] = board.level;
             forgetSome();
-            uses[tally[8]] = 0;
-            keepSources(tally[8]);
+            uses[tally[RECORDED]] = 0;
+            keepSources(tally[RECORDED]);
             board.lay(fresh, 0, freshTotal);
-            tally[1]++;
-            tally[4]++;
-            tally[7]++;
-            tally[8]++;
+            tally[STEPS]++;
+            tally[LEARNINGS]++;
+            tally[THERE]++;
+            tally[RECORDED]++;
             return GOES_ON;
         }
 
@@ -2016,7 +2031,7 @@ public final class ClauseCourt {
             return 0;
         }
 
-        /** How many of the LEVEL came into the set. */
+        /** Answers how many of the LEVEL came into the set, as the walk ends at the last of these. */
         private int takeIn(int slot, int level) {
             int came = 0;
             gatherRow(slot);
@@ -2055,7 +2070,7 @@ public final class ClauseCourt {
             }
         }
 
-        /** How many NAMES had RISE. */
+        /** Answers how many NAMES had RISE, which quarrel() tells. */
         private int raiseWeights() {
             int risen = 0;
             boolean tooHeavy = false;
@@ -2083,10 +2098,10 @@ public final class ClauseCourt {
             }
             board.backTo(level);
             since++;
-            if (anew > 0 && since >= anew * pace(tally[5] + 1)) {
+            if (anew > 0 && since >= anew * pace(tally[ANEWS] + 1)) {
                 board.backTo(0);
                 since = 0;
-                tally[5]++;
+                tally[ANEWS]++;
             }
         }
 
@@ -2107,11 +2122,11 @@ public final class ClauseCourt {
         }
 
         private void forgetSome() {
-            if (keep == 0 || tally[7] <= keep) {
+            if (keep == 0 || tally[THERE] <= keep) {
                 return;
             }
             queued = 0;
-            for (int k = 0; k < tally[8]; k++) {
+            for (int k = 0; k < tally[RECORDED]; k++) {
                 int slot = board.learntFrom + k;
                 if (isThere(k) && board.rows.size(slot) > 2 && !board.isReason(slot)) {
                     queueByUse(k);
@@ -2120,9 +2135,9 @@ public final class ClauseCourt {
             for (int i = 0; i < queued / 2; i++) {
                 board.bury(board.learntFrom + queue[i]);
             }
-            tally[6] += queued / 2;
-            tally[7] -= queued / 2;
-            for (int k = 0; k < tally[8]; k++) {
+            tally[WENT] += queued / 2;
+            tally[THERE] -= queued / 2;
+            for (int k = 0; k < tally[RECORDED]; k++) {
                 uses[k] /= 2;
             }
         }
@@ -2192,8 +2207,8 @@ public final class ClauseCourt {
                 return false;
             }
             board.rows.push(fresh, 0, freshTotal);
-            keepSources(tally[8]);
-            tally[8]++;
+            keepSources(tally[RECORDED]);
+            tally[RECORDED]++;
             return true;
         }
 
