@@ -342,14 +342,14 @@ public final class ClauseCourt {
         latest.closeBoard();
         rulesThen = ruleTotal;
         byNext = false;
-        return goWith(steps);
+        return heed(latest.go(steps));
     }
 
     public int goOn(int steps) {
         if (!areSteps(steps)) {
             return refuse(BAD);
         }
-        return mayGoOn ? goWith(steps) : refuse(STATE);
+        return mayGoOn ? heed(latest.go(steps)) : refuse(STATE);
     }
 
     public int truth(int n) {
@@ -525,7 +525,12 @@ public final class ClauseCourt {
         rulesThen = ruleTotal;
         byNext = true;
         mayGoOn = false;
-        return latest.another(court, steps);
+        latest.openNext(court);
+        int said = latest.go(steps);
+        if (said == YES) {
+            latest.barTruth(court);
+        }
+        return said;
     }
 
     public int unbar() {
@@ -541,11 +546,13 @@ public final class ClauseCourt {
         beside.bars.shortenTo(0);
         int given = steps;
         for (int times = 0; times < most; times++) {
-            int said = beside.another(court, given);
+            beside.openNext(court);
+            int said = beside.go(given);
             given -= beside.tally[Solver.STEPS];
             if (said != YES) {
                 return said == NO ? times : said;
             }
+            beside.barTruth(court);
         }
         return most;
     }
@@ -721,8 +728,7 @@ public final class ClauseCourt {
         return ruleTotal - 1;
     }
 
-    private int goWith(int steps) {
-        int said = latest.go(steps);
+    private int heed(int said) {
         mayGoOn = said == SPENT;
         if (said == NO) {
             keepCore();
@@ -1894,24 +1900,23 @@ public final class ClauseCourt {
             board.learntFrom = board.rows.total;
         }
 
-        /** SOLVING by next(), and the BARRED ROW that comes of it. */
-        int another(Case court, int steps) {
+        /** As next() begins: with BARRED ROWS, none ASSUMED. */
+        void openNext(Case court) {
             openBoard(court);
             layAll(court.rows);
             closeBoard();
             layAll(bars);
             board.learntFrom = board.rows.total;
-            int said = go(steps);
-            if (said == YES) {
-                freshTotal = 0;
-                for (int n = 1; n <= court.names; n++) {
-                    if (court.counted[n]) {
-                        pushFresh(board.isTrue(n) ? -n : n);
-                    }
+        }
+
+        void barTruth(Case court) {
+            freshTotal = 0;
+            for (int n = 1; n <= court.names; n++) {
+                if (court.counted[n]) {
+                    pushFresh(board.isTrue(n) ? -n : n);
                 }
-                bars.push(fresh, 0, freshTotal);
             }
-            return said;
+            bars.push(fresh, 0, freshTotal);
         }
 
         // ---- the turns
