@@ -93,10 +93,7 @@ public final class ClauseCourt {
     }
 
     public long get(int r, int i) {
-        int fault = lookForPlace(r, i == -1 ? 0 : i);
-        if (i == -1 && fault == BEYOND) {
-            fault = 0;
-        }
+        int fault = i == -1 ? lookForRow(r) : lookForPlace(r, i);
         if (fault != 0) {
             return REFUSED_LONG * refuse(fault);
         }
@@ -678,30 +675,30 @@ public final class ClauseCourt {
         }
     }
 
-    private int lookForPlace(int r, int i) {
+    private int lookForRow(int r) {
         if (!isPaper(r)) {
             return BAD;
         }
-        if (sizes[r] == MISSING) {
-            return NOTHING;
+        return sizes[r] == MISSING ? NOTHING : 0;
+    }
+
+    private int lookForPlace(int r, int i) {
+        int fault = lookForRow(r);
+        if (fault != 0) {
+            return fault;
         }
         return i < 0 || i >= sizes[r] ? BEYOND : 0;
     }
 
     private int lookForItems(int r) {
-        if (!isPaper(r)) {
-            return BAD;
+        int fault = lookForRow(r);
+        if (fault != 0) {
+            return fault;
         }
-        if (sizes[r] == MISSING) {
-            return NOTHING;
+        for (int i = 0; i < sizes[r] && fault == 0; i++) {
+            fault = court.look(paper[r][i]);
         }
-        for (int i = 0; i < sizes[r]; i++) {
-            int fault = court.look(paper[r][i]);
-            if (fault != 0) {
-                return fault;
-            }
-        }
-        return 0;
+        return fault;
     }
 
     private int[] itemsOf(int r) {

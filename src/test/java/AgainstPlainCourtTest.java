@@ -37,6 +37,7 @@ public final class AgainstPlainCourtTest {
         }
         ALL.sort(String::compareTo);
         int times = args.length > 0 ? Integer.parseInt(args[0]) : 60;
+        new AgainstPlainCourtTest("record", 0).record();
         for (int seed = 0; seed < times; seed++) {
             new AgainstPlainCourtTest("anything", seed).anything();
             new AgainstPlainCourtTest("clauses", seed).clauses(3);
@@ -373,6 +374,21 @@ public final class AgainstPlainCourtTest {
         call("goOn", 10);
         call("take");
         call("check");
+    }
+
+    /** Short ROWS, most of which go: the RECORD has 800 of them ahead of 8,000 ITEMS. */
+    private void record() throws Exception {
+        layPigeons(6, 5);
+        call("begin", 1);
+        call("forget", 1);
+        long said = call("solve", 5000);
+        while (said == ClauseCourt.SPENT) {
+            said = call("goOn", 5000);
+        }
+        lookAt();
+        if (call("solved", 8) != 800 || said != ClauseCourt.FULL) {
+            throw new IllegalStateException("the RECORD is not full");
+        }
     }
 
     private void layPigeons(int birds, int holes) throws Exception {

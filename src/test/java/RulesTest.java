@@ -327,22 +327,26 @@ public final class RulesTest {
         return 5;
     }
 
-    /** Only ROWS of many ITEMS fill these ahead of the ROWS: TOLD with j of 8, 37 ROWS of 157 ITEMS and one more. */
+    /** A TOLD with j of 8 is laid as 38 ROWS of 166 ITEMS; with CLAUSES of 12 the ITEMS get full ahead of the ROWS. */
     private static void fullOfItems() {
-        ClauseCourt c = Hand.withNames(8);
-        int laid = 0;
-        while (Hand.told(c, "j(x1,x2,x3,x4,x5,x6,x7,x8)") != FULL) {
-            laid++;
+        ClauseCourt c = Hand.withNames(12);
+        for (int i = 0; i < 12; i++) {
+            due.is("told " + i, i, Hand.told(c, "j(x1,x2,x3,x4,x5,x6,x7,x8)"));
         }
-        int each = 9 + 28 * 3 + 8 * 9 + 1;
-        due.is("how many RULES", Math.min(2500 / each, 500 / 38), laid);
-        due.is("ITEMS", laid * each, c.about(3));
-        ClauseCourt d = Hand.withNames(12);
-        Hand.paper(d, 0, 1, 2, 3, 4, 5, 6, 7, 8, 9, 10, 11, 12);
-        for (int i = 0; i < 59; i++) {
-            d.clause(0);
+        due.is("ROWS", 12 * 38, c.about(2));
+        due.is("ITEMS", 12 * 166, c.about(3));
+        Hand.paper(c, 0, 1, 2, 3, 4, 5, 6, 7, 8, 9, 10, 11, 12);
+        for (int i = 12; i < 54; i++) {
+            due.is("clause " + i, i, c.clause(0));
         }
-        due.is("ITEMS of 59 ROWS", 708, d.about(3));
+        due.is("ITEMS", 2496, c.about(3));
+        due.is("2,501 ITEMS", FULL, Hand.clause(c, 1, 2, 3, 4, 5));
+        due.is("each counts once", 54, Hand.clause(c, 1, 2, 3, 1, 4, 2));
+        due.is("ITEMS", 2500, c.about(3));
+        due.is("one more", FULL, Hand.clause(c, 1));
+        due.is("none more", 55, Hand.clause(c));
+        due.is("ROWS", 500, c.about(2));
+        due.is("the 501st", FULL, Hand.clause(c));
     }
 
     private static ClauseCourt ofAllKinds() {
