@@ -465,7 +465,6 @@ public final class ClauseCourt {
         if (fault != 0) {
             return refuse(fault);
         }
-        court.drafted = 0;
         for (int i = 0; i < sizes[r]; i++) {
             court.add(paper[r][i]);
         }
@@ -710,7 +709,6 @@ public final class ClauseCourt {
         int rowsBefore = court.rows.total;
         int namesBefore = court.names;
         court.over = ruleTotal >= MOST_RULES;
-        court.drafted = 0;
         rule.layInto(court);
         if (court.over) {
             court.rows.shortenTo(rowsBefore);
@@ -736,7 +734,7 @@ public final class ClauseCourt {
     private void keepCore() {
         coreRowTotal = 0;
         int last = latest.tally[Solver.RECORDED] - 1;
-        for (int k = 0; k < court.rows.total && k < CASE_ROWS; k++) {
+        for (int k = 0; k < court.rows.total; k++) {
             if (latest.hasSource(last, k)) {
                 coreRows[coreRowTotal] = k;
                 coreRowTotal++;
@@ -758,8 +756,12 @@ public final class ClauseCourt {
                 beside.board.layRow(court.rows, coreRows[k]);
             }
         }
+        supposeItems(place - coreRowTotal);
+    }
+
+    private void supposeItems(int without) {
         for (int k = 0; k < coreItemTotal; k++) {
-            if (k != place - coreRowTotal) {
+            if (k != without) {
                 beside.suppose(coreItems[k]);
             }
         }
@@ -773,10 +775,7 @@ public final class ClauseCourt {
                 beside.board.layRow(court.rows, coreRows[k]);
             }
         }
-        for (int k = 0; k < coreItemTotal; k++) {
-            beside.suppose(coreItems[k]);
-        }
-        beside.closeBoard();
+        supposeItems(-1);
     }
 
     private void dismiss(int place) {

@@ -49,6 +49,7 @@ public final class AgainstPlainCourtTest {
             new AgainstPlainCourtTest("full", seed).full();
             if (seed % 10 == 0) {
                 new AgainstPlainCourtTest("hard", seed).hard();
+                new AgainstPlainCourtTest("shrinking", seed).shrinking();
             }
         }
         for (int what = 0; what <= 4; what++) {
@@ -389,6 +390,23 @@ public final class AgainstPlainCourtTest {
         if (call("solved", 8) != 800 || said != ClauseCourt.FULL) {
             throw new IllegalStateException("the RECORD is not full");
         }
+    }
+
+    /** ITEMS that are ASSUMED make it easy enough for shrink() to come to its end, with much LEARNING and FORGETTING in it. */
+    private void shrinking() throws Exception {
+        layPigeons(5, 4);
+        paperRow(0, someItems(3, 20));
+        call("parity", 0, random.nextBoolean());
+        call("begin", upTo(2));
+        call("forget", 1 + upTo(4));
+        call("assume", 1);
+        call("assume", -2);
+        call("assume", upTo(1) == 0 ? 6 : -12);
+        call("solve", 5000);
+        call("shrink", 5000);
+        lookAtCore();
+        call("shrink", 5000);
+        lookAt();
     }
 
     private void layPigeons(int birds, int holes) throws Exception {

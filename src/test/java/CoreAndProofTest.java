@@ -11,6 +11,7 @@ public final class CoreAndProofTest {
         coreAndItsStates();
         coreByNext();
         shrinks();
+        shrinksItems();
         shrinksSpent();
         leastSets();
         leastRefused();
@@ -131,6 +132,29 @@ public final class CoreAndProofTest {
         Hand.clause(c, -2, 3);
         Hand.clause(c, 2, 3);
         return c;
+    }
+
+    /** With -2 and 6, ROWS 0 and 6 ask for 4, ROW 1 then for 3, and ROW 4 quarrels: neither 1 nor ROW 5 is needed. */
+    private static void shrinksItems() {
+        ClauseCourt c = Hand.withNames(6);
+        Hand.clause(c, 2, -5, 4);
+        Hand.clause(c, 3, -4, 3);
+        Hand.clause(c, -5, -4);
+        Hand.clause(c, -6, -2);
+        Hand.clause(c, -3, -4, -6);
+        Hand.clause(c, -1, 4, 3);
+        Hand.clause(c, 5, 4);
+        c.assume(1);
+        c.assume(-2);
+        c.assume(6);
+        due.is("solve", 0, c.solve(100));
+        due.is("CORE's ROWS", "0 1 4 5 6", Hand.core(c, 0));
+        due.is("CORE's ITEMS", "1 -2 6", Hand.core(c, 1));
+        due.is("shrink", 6, c.shrink(5000));
+        due.is("CORE's ROWS", "0 1 4 6", Hand.core(c, 0));
+        due.is("CORE's ITEMS", "-2 6", Hand.core(c, 1));
+        due.is("coreAt(1, 2)", NONE, c.coreAt(1, 2));
+        due.is("about(4)", 3, c.about(4));
     }
 
     private static void shrinksSpent() {
