@@ -1641,8 +1641,6 @@ public final class ClauseCourt {
             trailTotal = 0;
             level = 0;
             names = nameTotal;
-            barsFrom = 0;
-            learntFrom = 0;
         }
 
         int valueOf(int v) {

@@ -37,7 +37,8 @@ public final class AgainstPlainCourtTest {
         }
         ALL.sort(String::compareTo);
         int times = args.length > 0 ? Integer.parseInt(args[0]) : 60;
-        new AgainstPlainCourtTest("record", 0).record();
+        new AgainstPlainCourtTest("rows of the record", 0).fullRecord(6, 5, 1, 1, true);
+        new AgainstPlainCourtTest("items of the record", 0).fullRecord(7, 6, 4, 0, false);
         for (int seed = 0; seed < times; seed++) {
             new AgainstPlainCourtTest("anything", seed).anything();
             new AgainstPlainCourtTest("clauses", seed).clauses(3);
@@ -47,6 +48,7 @@ public final class AgainstPlainCourtTest {
             new AgainstPlainCourtTest("texts", seed).texts();
             new AgainstPlainCourtTest("counting", seed).counting();
             new AgainstPlainCourtTest("full", seed).full();
+            new AgainstPlainCourtTest("walking", seed).walking();
             if (seed % 10 == 0) {
                 new AgainstPlainCourtTest("hard", seed).hard();
                 new AgainstPlainCourtTest("shrinking", seed).shrinking();
@@ -150,8 +152,10 @@ public final class AgainstPlainCourtTest {
             call("quarrel", what);
         }
         int names = court.about(0);
-        for (int n = 0; n <= names + 1; n += 1 + upTo(2)) {
+        for (int n = 0; n <= names + 1; n++) {
             call("weighs", n);
+        }
+        for (int n = 0; n <= names + 1; n += 1 + upTo(2)) {
             call("truth", n);
         }
         for (int k = 0; k < 3; k++) {
@@ -377,18 +381,76 @@ public final class AgainstPlainCourtTest {
         call("check");
     }
 
-    /** Short ROWS, most of which go: the RECORD has 800 of them ahead of 8,000 ITEMS. */
-    private void record() throws Exception {
-        layPigeons(6, 5);
-        call("begin", 1);
-        call("forget", 1);
-        long said = call("solve", 5000);
-        while (said == ClauseCourt.SPENT) {
-            said = call("goOn", 5000);
+    /** The first has short ROWS, most of which go: 800 of them ahead of 8,000 ITEMS, behind 500 ROWS of the CASE. */
+    private void fullRecord(int birds, int holes, int begin, int forget, boolean byRows) throws Exception {
+        layPigeons(birds, holes);
+        if (byRows) {
+            fillRows();
+        }
+        call("begin", begin);
+        call("forget", forget);
+        call("weight", court.about(0), 1000);
+        for (int times = 0; times < 2; times++) {
+            long said = call("solve", 5000);
+            while (said == ClauseCourt.SPENT) {
+                said = call("goOn", 5000);
+            }
+            lookAt();
+            int items = 0;
+            for (int k = 0; k < court.solved(4); k++) {
+                items += court.line(2000 + k, -1);
+            }
+            boolean full = byRows ? court.solved(8) == 800 : items == 8000;
+            if (said != ClauseCourt.FULL || !full) {
+                throw new IllegalStateException("the RECORD is not full to its end");
+            }
+        }
+    }
+
+    /** ROWS that don't meddle with the others, until there are 500. */
+    private void fillRows() throws Exception {
+        int names = (int) call("names", 12);
+        int[] last = new int[12];
+        for (int i = 0; i < 12; i++) {
+            last[i] = names - i;
+        }
+        paperRow(0, last);
+        call("group", 0, 12);
+        paperRow(0, 1, -1);
+        while (court.about(2) < 500) {
+            call("clause", 0);
+        }
+    }
+
+    /** A few STEPS at a time, with all QUARRELS looked at. */
+    private void walking() throws Exception {
+        if (random.nextBoolean()) {
+            layPigeons(5, 4);
+        } else {
+            call("names", 16);
+            for (int i = 0; i < 60; i++) {
+                paperRow(0, someItems(3, 16));
+                call("clause", 0);
+            }
+        }
+        tellSome(16);
+        call("forget", upTo(4));
+        long said = call("solve", 1 + upTo(30));
+        for (int i = 0; i < 400 && said == ClauseCourt.SPENT; i++) {
+            said = call("goOn", 1 + upTo(5));
+            for (int what = 0; what <= 4; what++) {
+                call("quarrel", what);
+            }
+            for (int what = 0; what <= 9; what++) {
+                call("solved", what);
+            }
+            call("line", 2000 + court.solved(4) - 1, upTo(4) - 1);
         }
         lookAt();
-        if (call("solved", 8) != 800 || said != ClauseCourt.FULL) {
-            throw new IllegalStateException("the RECORD is not full");
+        for (int most : new int[] {0, 3}) {
+            call("forget", most);
+            call("solve", 5000);
+            lookAt();
         }
     }
 

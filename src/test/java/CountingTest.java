@@ -18,6 +18,7 @@ public final class CountingTest {
         forced();
         forcedUpToAQuarrel();
         forcedByOrder();
+        allNamesForced();
         due.end();
     }
 
@@ -199,6 +200,35 @@ public final class CountingTest {
         due.is("a ROW without ITEMS", NONE, d.forced());
         due.is("forcedAt(0)", NONE, d.forcedAt(0));
         due.is("why(1)", NONE, d.why(1));
+    }
+
+    /** Each ATMOST of 12 with 0 makes 11 NAMES and forces 23; the 300th is forced last of all. */
+    private static void allNamesForced() {
+        ClauseCourt c = Hand.withNames(0);
+        for (int rule = 0; rule < 13; rule++) {
+            int names = c.names(12);
+            c.row(0, 12);
+            for (int i = 0; i < 12; i++) {
+                c.put(0, i, names - i);
+            }
+            due.is("atMost", rule, c.atMost(0, 0));
+        }
+        due.is("names", 300, c.names(1));
+        due.is("forced", 299, c.forced());
+        Hand.clause(c, -300, 1);
+        due.is("forced", 300, c.forced());
+        due.is("forcedAt(299)", -300, c.forcedAt(299));
+        due.is("forcedAt(300)", NONE, c.forcedAt(300));
+        due.is("solve", 1, c.solve(300));
+        due.is("solved", "1 300 300 0 0 0 0 0 0 0", Hand.solved(c));
+        Hand.clause(c, 300, 2);
+        due.is("a QUARREL behind all 300", NONE, c.forced());
+        due.is("forcedAt(299)", -300, c.forcedAt(299));
+        due.is("solve", 0, c.solve(300));
+        due.is("core", 1, c.core(0) > 0 ? 1 : 0);
+        due.is("take", 1, c.take());
+        due.is("check", 1, c.check());
+        due.is("why(300)", c.about(2) - 2, c.why(300));
     }
 
     /** Each time the first ROW by number that forces does so. */

@@ -27,6 +27,8 @@ public final class SolvingTest {
         truths();
         figures();
         recordFull();
+        lastNames();
+        quarrelWithLearnt();
         due.end();
     }
 
@@ -291,6 +293,15 @@ public final class SolvingTest {
         for (int k = 0; k < c.solved(4); k++) {
             due.is("they are told", 1, c.line(2000 + k, -1) > 0 ? 1 : 0);
         }
+        ClauseCourt d = pigeons(5, 4);
+        d.forget(2);
+        d.solve(5000);
+        String solved = Hand.solved(d);
+        due.is("USE is that of this SOLVING", solved, Hand.solved(c));
+        long weighs = c.weighs(1);
+        due.is("again", 0, c.solve(5000));
+        due.is("nothing of the one before counts", solved, Hand.solved(c));
+        due.is("nor of its weights", weighs, c.weighs(1));
         due.is("take", c.solved(8), c.take());
         due.is("check", 1, c.check());
     }
@@ -431,5 +442,43 @@ public final class SolvingTest {
         }
         due.is("8,000 ITEMS at most", 1, items <= 8000 ? 1 : 0);
         due.is("and nearly so many", 1, items > 7900 ? 1 : 0);
+    }
+
+    /** As noAtLevelNone(), with the last NAMES that can be. */
+    private static void lastNames() {
+        ClauseCourt c = Hand.withNames(300);
+        Hand.clause(c, 299, 300);
+        Hand.clause(c, 299, -300);
+        Hand.clause(c, -299, 300);
+        Hand.clause(c, -299, -300);
+        c.weight(299, 1);
+        due.is("solve", 0, c.solve(5));
+        due.is("solved", "0 5 3 1 1 0 0 1 2 1", Hand.solved(c));
+        due.is("quarrel", "3 0 0 0 0", Hand.quarrel(c));
+        due.is("CORE's ROWS", "0 1 2 3", Hand.core(c, 0));
+        due.is("weighs(299)", 65, c.weighs(299));
+        due.is("weighs(300)", 64, c.weighs(300));
+        due.is("the NEW ROW", "299", Hand.line(c, 2000));
+        due.is("shrink", 4, c.shrink(5000));
+        c.assume(300);
+        c.free();
+        c.counted(300, true);
+        due.is("next", 0, c.next(100));
+    }
+
+    /** The QUARREL can be LEARNT itself: then it is told by its own number. */
+    private static void quarrelWithLearnt() {
+        ClauseCourt c = pigeons(5, 4);
+        boolean found = false;
+        int said = c.solve(1);
+        while (said == SPENT) {
+            if (c.quarrel(0) >= 2000) {
+                found = true;
+                due.is("it was there", 1, c.quarrel(0) - 2000 < c.solved(4) ? 1 : 0);
+            }
+            due.is("none BARRED", 0, c.quarrel(0) >= 1000 && c.quarrel(0) < 2000 ? 1 : 0);
+            said = c.goOn(1);
+        }
+        due.is("one was LEARNT", 1, found ? 1 : 0);
     }
 }
