@@ -14,6 +14,7 @@ public final class ActEdgesTest {
 
     public static void main(String[] args) {
         rulesRefused();
+        rulesOfSixty();
         kinds();
         casts();
         items();
@@ -27,7 +28,9 @@ public final class ActEdgesTest {
         leastAndMost();
         laid();
         prints();
+        printsAreTraced();
         exports();
+        exportsMuch();
         outs();
         traces();
         traceKeepsHundred();
@@ -54,6 +57,30 @@ public final class ActEdgesTest {
             edge.of("22", "BAD");
             edge.refused("print(" + next + ") of " + next, BAD, scene.getValue(), c -> c.print(next));
         }
+    }
+
+    private static ClauseCourt sixty() {
+        ClauseCourt c = Hand.withNames(1);
+        Hand.paper(c, 0, 1);
+        for (int i = 0; i < 60; i++) {
+            c.clause(0);
+        }
+        return c;
+    }
+
+    private static void rulesOfSixty() {
+        edge.of("16", "RULES, 60 at most, are numbered from 0 on");
+        edge.is("kind(59)", 0, sixty().kind(59));
+        edge.is("item(59, 0)", 1, sixty().item(59, 0));
+        edge.is("rows(59, 0)", 59, sixty().rows(59, 0));
+        edge.is("ask(59, 3)", 1, sixty().ask(59, 3));
+        edge.is("print(59)", "some(1)".length(), sixty().print(59));
+        edge.refused("kind(60)", BAD, ActEdgesTest::sixty, c -> c.kind(60));
+        edge.refused("as(60, 0)", BAD, ActEdgesTest::sixty, c -> c.as(60, 0));
+        edge.refused("item(60, 0)", BAD, ActEdgesTest::sixty, c -> c.item(60, 0));
+        edge.refused("rows(60, 0)", BAD, ActEdgesTest::sixty, c -> c.rows(60, 0));
+        edge.refused("ask(60, 1)", BAD, ActEdgesTest::sixty, c -> c.ask(60, 1));
+        edge.refused("print(60)", BAD, ActEdgesTest::sixty, c -> c.print(60));
     }
 
     private static void noRule(int rule) {
@@ -282,6 +309,16 @@ public final class ActEdgesTest {
             return c;
         };
         edge.refused("it came since", STATE, since, c -> c.ask(7, 0));
+        ClauseCourt e = learns();
+        e.solve(100);
+        edge.is("it was there", 1, e.ask(1, 0));
+        Hand.clause(e, 1);
+        edge.is("it came since", STATE, e.ask(2, 0));
+        e.solve(100);
+        edge.is("it was there when the next one began", 1, e.ask(2, 0));
+        Hand.clause(e, 1);
+        e.next(100);
+        edge.is("and when next() began", 1, e.ask(3, 0));
     }
 
     private static void holdsInState() {
@@ -389,6 +426,19 @@ public final class ActEdgesTest {
         edge.is("the TRACE of LIST", "4 64", Hand.trace(c, 2));
     }
 
+    private static void printsAreTraced() {
+        edge.of("22", "ACTS of RULES are BODIES, each told to TRACE as it begins: 10 times its KIND and the ACT; LIST 64");
+        String[] traces = {"4 64", "14 64", "24 14 64", "34 64", "44"};
+        for (int rule = 0; rule < 5; rule++) {
+            ClauseCourt c = Scenes.spent();
+            String before = Hand.trace(c, 3);
+            c.print(rule);
+            int told = traces[rule].split(" ").length;
+            edge.is("print(" + rule + ")", traces[rule], Hand.trace(c, told));
+            edge.is("and no more", before, Hand.trace(c, 3 + told).substring(0, before.length()));
+        }
+    }
+
     private static void exports() {
         edge.of("23", "OUT has the ROWS of the CASE: of each its ITEMS, a blank behind each, then 0 and byte 10: how many bytes");
         ClauseCourt c = Hand.withNames(300);
@@ -409,6 +459,43 @@ public final class ActEdgesTest {
         edge.is("what was in OUT is gone", "1 0\n", Hand.out(d));
         d.print(0);
         edge.is("and once more", "x1", Hand.out(d));
+    }
+
+    /** 11 PARITIES of the 12 latest NAMES each make 11 more, until there are 300: what OUT has of these is told by the words. */
+    private static void exportsMuch() {
+        edge.of("23", "OUT has the ROWS of the CASE: how many bytes");
+        ClauseCourt c = Hand.withNames(179);
+        StringBuilder text = new StringBuilder();
+        for (int rule = 0; rule < 11; rule++) {
+            int[] x = new int[12];
+            for (int i = 0; i < 12; i++) {
+                x[i] = rule - 168 - i;
+            }
+            Hand.paper(c, 0, x);
+            edge.is("parity", rule, c.parity(0, true));
+            int p = x[0];
+            for (int i = 1; i < 12; i++) {
+                int s = 179 + 11 * rule + i;
+                text.append(-p).append(' ').append(-x[i]).append(' ').append(-s).append(" 0\n");
+                text.append(p).append(' ').append(x[i]).append(' ').append(-s).append(" 0\n");
+                text.append(p).append(' ').append(-x[i]).append(' ').append(s).append(" 0\n");
+                text.append(-p).append(' ').append(x[i]).append(' ').append(s).append(" 0\n");
+                p = s;
+            }
+            text.append(p).append(" 0\n");
+        }
+        edge.is("about(0)", 300, c.about(0));
+        edge.is("about(2)", 495, c.about(2));
+        edge.is("export()", text.length(), c.export());
+        edge.is("about(9)", text.length(), c.about(9));
+        edge.is("behind the last byte", NONE, c.out(text.length()));
+        for (int i = text.length() - 100; i < text.length(); i++) {
+            edge.is("out(" + i + ")", text.charAt(i), c.out(i));
+        }
+        for (int i = 0; i < 50; i++) {
+            int at = 137 * i;
+            edge.is("out(" + at + ")", text.charAt(at), c.out(at));
+        }
     }
 
     private static void outs() {

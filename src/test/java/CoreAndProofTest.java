@@ -2,7 +2,6 @@
 public final class CoreAndProofTest {
     private static final int BAD = ClauseCourt.BAD;
     private static final int STATE = ClauseCourt.STATE;
-    private static final int FULL = ClauseCourt.FULL;
     private static final int SPENT = ClauseCourt.SPENT;
     private static final int NONE = ClauseCourt.NONE;
     private static final Due due = new Due("CoreAndProofTest");
@@ -17,7 +16,6 @@ public final class CoreAndProofTest {
         leastRefused();
         takes();
         claimsAndStrikes();
-        claimsFull();
         checks();
         checksTheEnd();
         due.end();
@@ -247,32 +245,6 @@ public final class CoreAndProofTest {
         due.is("strike(1)", 1, c.strike(1));
         due.is("strike(0)", 1, c.strike(0));
         due.is("about(6)", 0, c.about(6));
-    }
-
-    /** Only take() fills PROOF so far that 512 calls reach its end. */
-    private static void claimsFull() {
-        ClauseCourt c = Hand.withNames(12);
-        int[] all = new int[12];
-        for (int i = 0; i < 12; i++) {
-            all[i] = i + 1;
-        }
-        Hand.paper(c, 0, all);
-        for (int i = 1; i <= 666; i++) {
-            due.is("claim " + i, i, c.claim(0));
-        }
-        due.is("8,004 ITEMS", FULL, c.claim(0));
-        due.is("status", FULL, c.status());
-        due.is("about(6)", 666, c.about(6));
-        c.cut(0, 8);
-        due.is("8,000 ITEMS", 667, c.claim(0));
-        due.is("one more ITEM", FULL, Hand.claim(c, 1));
-        due.is("a ROW without ITEMS", 668, Hand.claim(c));
-        for (int i = 669; i <= 800; i++) {
-            due.is("claim " + i, i, c.claim(39));
-        }
-        due.is("the 801st", FULL, c.claim(39));
-        due.is("strike(0)", 1, c.strike(0));
-        due.is("there is room again", 800, c.claim(0));
     }
 
     private static void checks() {

@@ -19,6 +19,22 @@ public final class CoreEdgesTest {
     private static final int[] NO_STEPS = {0, -1, 5001, MIN, MAX};
     private static final Edge edge = new Edge("CoreEdgesTest");
 
+    /** ROWS and ASSUMED ITEMS that are seldom drawn: two sets of like many ROWS, one of more with a lesser number, ITEMS that go. */
+    private static final String[][] CHOSEN = {
+        {"-4 1, 3 1, -1 3 -4, -3 -4, -4 1, -4 3, 2 -4 1, 2, -4 4, 4 3, -4 2 3, 4 -2 -4, -3 4, 4 -4", ""},
+        {"3 2 -2, 1 4, 4 -1 3, 4 1, 3 1, 2 -2, -3 -4, -4 3, 3 1, -3 4 -2, 1 4", "2"},
+        {"5 1, -2 -3 2, 4 1, -5 3 -1, -2 -4 -5, 3 -2, -5 2, -5 3, 5 -1, -1 4, -5 -4, 5 1, 4 3 5, 2 1", ""},
+        {"1 3, 1 4, 2 -3 -1, -3 1 -4, -4 -3 4, 4 -2, 2 3 1, 2 -1, 4 -1, 3 -1 -4, -3 -4, 2 4", "-3"},
+        {"3 1, 5 2, -4 2 1, 2 4 -6, -3 -5, -2 1 -3, -2 1, -2 3, -6 5 -3, -6 -1 2, 4 -1, -3 -5", "4 6"},
+        {"2 -5 4, 3 -4, -5 -4, -6 -2, -3 -4 -6, -1 4 3, 5 4", "1 -2 6"},
+    };
+
+    /** How often something went, or a set was first for each reason: without such cases the test would tell nothing. */
+    private static int rowsWent;
+    private static int itemsWent;
+    private static int ties;
+    private static int lesserButMore;
+
     public static void main(String[] args) {
         numbersRefused();
         statesRefused();
@@ -26,6 +42,7 @@ public final class CoreEdgesTest {
         coresOfNo();
         coresByAssumed();
         coresByContraries();
+        coreOfTheLatest();
         coresAt();
         coreStays();
         shrinksByHand();
@@ -42,6 +59,7 @@ public final class CoreEdgesTest {
         strikes();
         proofs();
         checks();
+        checksAnew();
         checksTheLast();
         refusedAts();
         lastRowByAssumedFull();
@@ -184,6 +202,19 @@ public final class CoreEdgesTest {
         edge.is("the RECORD's ROW", " 1 -1", Hand.proof(c));
     }
 
+    private static void coreOfTheLatest() {
+        edge.of("36", "Of the CORE [of the latest SOLVING]");
+        ClauseCourt c = court(3, row(-1, 2), row(-2, 3), row(-3));
+        c.assume(1);
+        core("the first NO", c, "0 1 2", "1");
+        c.free();
+        c.assume(2);
+        c.assume(3);
+        core("the next NO", c, "1 2", "2");
+        Hand.clause(c, 3);
+        core("the third", c, "2 3", "");
+    }
+
     private static void coresAt() {
         edge.of("37", "The k-th (from 0) of the CORE, of its ROWS by numbers, its ITEMS as they were ASSUMED. NONE");
         int[] rows = {4, 7, 11, 14};
@@ -237,6 +268,18 @@ public final class CoreEdgesTest {
         edge.is("ROWS", "2", Hand.core(d, 0));
         edge.is("ITEMS", "3", Hand.core(d, 1));
         edge.is("neither goes, though other ROWS and 1 would say NO without ROW 2", 2, d.shrink(5000));
+        edge.of("38", "Each of the CORE, ROWS by numbers, then ITEMS as ASSUMED");
+        ClauseCourt e = court(6, row(2, -5, 4), row(3, -4), row(-5, -4), row(-6, -2), row(-3, -4, -6), row(-1, 4, 3), row(5, 4));
+        e.assume(1);
+        e.assume(-2);
+        e.assume(6);
+        edge.is("solve", 0, e.solve(5000));
+        edge.is("ROWS", "0 1 4 5 6", Hand.core(e, 0));
+        edge.is("ITEMS", "1 -2 6", Hand.core(e, 1));
+        edge.is("ROW 5 and then 1 go", 6, e.shrink(5000));
+        edge.is("ROWS", "0 1 4 6", Hand.core(e, 0));
+        edge.is("ITEMS", "-2 6", Hand.core(e, 1));
+        edge.is("coreAt(1, 2)", NONE, e.coreAt(1, 2));
     }
 
     private static ClauseCourt assumed(ClauseCourt c, int v) {
@@ -346,36 +389,50 @@ public final class CoreEdgesTest {
 
     /** Small CASEs whose every TRUTH is tried: what shrink() and least() leave, by their own words. */
     private static void againstTruthTables() {
-        int ties = 0;
-        int shrunk = 0;
-        for (int seed = 0; seed < 300; seed++) {
+        for (int seed = 0; seed < 500; seed++) {
             Random random = new Random(seed);
-            List<int[]> rows = new ArrayList<>();
-            for (int i = 0; i < 24; i++) {
-                int[] items = new int[2 + random.nextInt(2)];
-                for (int k = 0; k < items.length; k++) {
-                    items[k] = (1 + random.nextInt(6)) * (random.nextBoolean() ? 1 : -1);
-                }
-                rows.add(items);
+            int[][] rows = new int[10 + random.nextInt(16)][];
+            for (int i = 0; i < rows.length; i++) {
+                rows[i] = drawn(random, 2 + random.nextInt(2));
             }
-            Supplier<ClauseCourt> make = () -> {
-                ClauseCourt c = court(6, rows.toArray(new int[0][]));
-                for (int n = 1; n <= assumedOf(rows); n++) {
-                    c.assume(n % 2 == 0 ? -n : n);
-                }
-                return solved(c);
-            };
-            if (make.get().solved(0) == 0) {
-                shrunk += shrinksAsTold(make.get(), rows);
-                ties += leastAsTold(make.get(), rows);
-            }
+            asTold(rows, drawn(random, random.nextInt(6)));
         }
-        edge.is("something went", 1, shrunk > 0 ? 1 : 0);
+        for (String[] one : CHOSEN) {
+            String[] texts = one[0].split(", ");
+            int[][] rows = new int[texts.length][];
+            for (int i = 0; i < rows.length; i++) {
+                rows[i] = items(texts[i]);
+            }
+            asTold(rows, items(one[1]));
+        }
+        edge.is("ROWS went", 1, rowsWent > 0 ? 1 : 0);
+        edge.is("ITEMS went", 1, itemsWent > 0 ? 1 : 0);
         edge.is("sets of like many ROWS", 1, ties > 0 ? 1 : 0);
+        edge.is("sets of more ROWS with a lesser number", 1, lesserButMore > 0 ? 1 : 0);
     }
 
-    private static int assumedOf(List<int[]> rows) {
-        return Math.abs(rows.get(0)[0]) % 4;
+    private static int[] items(String text) {
+        return text.isEmpty() ? new int[0] : Arrays.stream(text.split(" ")).mapToInt(Integer::parseInt).toArray();
+    }
+
+    private static int[] drawn(Random random, int size) {
+        int[] items = new int[size];
+        for (int k = 0; k < size; k++) {
+            items[k] = (1 + random.nextInt(6)) * (random.nextBoolean() ? 1 : -1);
+        }
+        return items;
+    }
+
+    private static void asTold(int[][] rows, int[] wanted) {
+        Supplier<ClauseCourt> make = () -> {
+            ClauseCourt c = court(6, rows);
+            Arrays.stream(wanted).forEach(c::assume);
+            return solved(c);
+        };
+        if (make.get().solved(0) == 0) {
+            shrinksAsTold(make.get(), Arrays.asList(rows));
+            leastAsTold(make.get(), Arrays.asList(rows));
+        }
     }
 
     private static List<Integer> core(ClauseCourt c, int what) {
@@ -407,11 +464,12 @@ public final class CoreEdgesTest {
         return (truths >> Math.abs(v) - 1 & 1) == (v > 0 ? 1 : 0);
     }
 
-    private static int shrinksAsTold(ClauseCourt c, List<int[]> rows) {
+    private static void shrinksAsTold(ClauseCourt c, List<int[]> rows) {
         edge.of("38", "Each of the CORE, ROWS by numbers, then ITEMS as ASSUMED");
         List<Integer> numbers = core(c, 0);
         List<Integer> items = core(c, 1);
-        int before = numbers.size() + items.size();
+        rowsWent += numbers.size();
+        itemsWent += items.size();
         for (Integer number : core(c, 0)) {
             List<Integer> others = new ArrayList<>(numbers);
             others.remove(number);
@@ -425,42 +483,46 @@ public final class CoreEdgesTest {
         edge.is("shrink()", numbers.size() + items.size(), c.shrink(5000));
         edge.is("ROWS", numbers.toString(), core(c, 0).toString());
         edge.is("ITEMS", items.toString(), core(c, 1).toString());
-        return before - numbers.size() - items.size();
+        rowsWent -= numbers.size();
+        itemsWent -= items.size();
     }
 
-    private static int leastAsTold(ClauseCourt c, List<int[]> rows) {
+    private static void leastAsTold(ClauseCourt c, List<int[]> rows) {
         edge.of("39", "of like many those with the lesser number (2 to the k for the k-th ROW, added)");
         List<Integer> numbers = core(c, 0);
         List<Integer> items = core(c, 1);
         if (numbers.size() > 10) {
             edge.is("least() of more than 10", STATE, c.least(5000));
-            return 0;
+            return;
         }
-        List<Integer> first = null;
+        List<Integer> first = numbers;
+        int firstSet = -1;
         int like = 0;
-        for (int size = 0; size <= numbers.size() && first == null; size++) {
-            for (int set = 0; set < 1 << numbers.size(); set++) {
-                List<Integer> some = new ArrayList<>();
-                for (int k = 0; k < numbers.size(); k++) {
-                    if ((set >> k & 1) == 1) {
-                        some.add(numbers.get(k));
-                    }
+        int lesser = 0;
+        for (int set = 0; set < 1 << numbers.size(); set++) {
+            List<Integer> some = new ArrayList<>();
+            for (int k = 0; k < numbers.size(); k++) {
+                if ((set >> k & 1) == 1) {
+                    some.add(numbers.get(k));
                 }
-                if (some.size() == size && !canBe(rows, some, items)) {
-                    first = first == null ? some : first;
-                    like++;
-                }
+            }
+            if (canBe(rows, some, items)) {
+                continue;
+            }
+            like = firstSet >= 0 && some.size() == first.size() ? like + 1 : like;
+            if (firstSet < 0 || some.size() < first.size()) {
+                lesser += firstSet >= 0 ? 1 : 0;
+                first = some;
+                firstSet = set;
+                like = 0;
             }
         }
         int said = c.least(5000);
-        if (said == SPENT) {
-            edge.is("it stays", numbers.toString(), core(c, 0).toString());
-            return 0;
-        }
-        edge.is("least()", first == null ? -1 : first.size(), said);
-        edge.is("ROWS", String.valueOf(first), core(c, 0).toString());
+        edge.is("least()", said == SPENT ? SPENT : first.size(), said);
+        edge.is("ROWS", (said == SPENT ? numbers : first).toString(), core(c, 0).toString());
         edge.is("ITEMS", items.toString(), core(c, 1).toString());
-        return like - 1;
+        ties += said == SPENT ? 0 : like;
+        lesserButMore += said == SPENT ? 0 : lesser;
     }
 
     // ---- PROOF
@@ -648,6 +710,34 @@ public final class CoreEdgesTest {
         check("BARRED ROWS are not of the others", 0, 0, d);
         check("a CASE that comes to a QUARREL by itself", 1, NONE, claimed(court(1, row(1), row(-1)), row()));
         check("whatever is claimed of it", 0, 1, claimed(court(2, row(1), row(-1)), row(2)));
+    }
+
+    /** What count(), shrink(), forced() or an earlier check() tried is nothing to the next one. */
+    private static void checksAnew() {
+        edge.of("44", "(and no other TRUTHS) FORCING by those others");
+        ClauseCourt c = claimed(court(2, row(1, 2)), row(2, -2));
+        c.counted(1, true);
+        check("ahead of all", 0, 1, c);
+        c.strike(0);
+        Hand.claim(c, 1);
+        c.count(2, 100);
+        check("behind count()", 0, 0, c);
+        c.forced();
+        check("behind forced()", 0, 0, c);
+        ClauseCourt d = claimed(court(2, row(1), row(-1)), row(2), row());
+        check("all FOLLOW", 1, NONE, d);
+        ClauseCourt e = claimed(court(3, row(-1, 2), row(-2, 3)), row(-1, 3), row(-1));
+        e.assume(1);
+        check("-1 does not FOLLOW", 0, 1, e);
+        e.strike(0);
+        check("nor without the one ahead of it", 0, 0, e);
+        ClauseCourt f = claimed(court(2, row(1, 2), row(1, -2)), row(1), row(1, 2));
+        check("1 FOLLOWS", 0, 2, f);
+        f.strike(0);
+        Hand.clause(f, -2);
+        check("ROWS that are struck are not of them, those of the CASE are", 0, 1, f);
+        edge.is("forced() behind check()", 2, f.forced());
+        edge.is("count() behind check()", 1, f.count(9, 100));
     }
 
     private static void checksTheLast() {

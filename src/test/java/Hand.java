@@ -39,7 +39,8 @@ final class Hand {
 
     static String line(ClauseCourt c, int row) {
         StringBuilder text = new StringBuilder();
-        for (int i = 0; i < c.line(row, -1); i++) {
+        int size = c.line(row, -1);
+        for (int i = 0; i < size; i++) {
             text.append(i > 0 ? " " : "").append(c.line(row, i));
         }
         return text.toString();

@@ -17,6 +17,7 @@ public final class LearningEdgesTest {
         firstThatForces();
         rowsThatForceNothing();
         barredBehindCase();
+        learntBehindBarred();
         assumedTurns();
         latestTruths();
         setWithoutLevelNone();
@@ -30,6 +31,7 @@ public final class LearningEdgesTest {
         forgettingMoreThanTwoItems();
         recordOf800Rows();
         recordOf8000Items();
+        recordBesideAFullCase();
         lastRowOfNo();
         fullIsNoStep();
         undoneWhicheverWay();
@@ -133,6 +135,24 @@ public final class LearningEdgesTest {
         edge.is("the BARRED ROW", "1", Hand.line(c, 1000));
         edge.is("next", 0, c.next(10));
         edge.is("the CASE forces, the BARRED one quarrels", "1000 0 0 0 0", Hand.quarrel(c));
+    }
+
+    /**
+     * -1, -2 are DECIDED, ROW 0 forces -3, ROW 1000 quarrels: 2 1 is learnt. It forces 2, ROW 1 3, ROW 3 quarrels: -2 is learnt. It
+     * is FORCED, then -3, -1 by ROWS 0 and 2: so both ROWS 1000 and 2000 have FALSE ITEMS alone.
+     */
+    private static void learntBehindBarred() {
+        edge.of("47", "ORDER (.. then BARRED ones, then LEARNT ones, by numbers)");
+        ClauseCourt c = court(3, row(2, -3), row(3, -2), row(2, -1), row(-3, -2));
+        for (int n = 1; n <= 3; n++) {
+            c.counted(n, true);
+        }
+        edge.is("next", 1, c.next(10));
+        edge.is("the BARRED ROW", "1 2 3", Hand.line(c, 1000));
+        edge.is("next", 0, c.next(10));
+        edge.is("LEARNT", "2 1", Hand.line(c, 2000));
+        edge.is("LEARNT", "-2", Hand.line(c, 2001));
+        edge.is("the first by ORDER", "1000 0 0 0 0", Hand.quarrel(c));
     }
 
     // ---- the turns
@@ -467,6 +487,45 @@ public final class LearningEdgesTest {
         Supplier<ClauseCourt> nearly = () -> hard(7, 0, 1, 0);
         edge.is("ITEMS, one is left", 7999, itemsLearnt(nearly));
         edge.is("said", FULL, ended(nearly).solved(0));
+    }
+
+    /** ROWS that don't meddle with the others, until there are 500. */
+    private static ClauseCourt filled(ClauseCourt c, int parities) {
+        int names = c.names(12);
+        int[] last = new int[12];
+        for (int i = 0; i < 12; i++) {
+            last[i] = names - i;
+        }
+        Hand.paper(c, 0, last);
+        if (parities == 0) {
+            c.group(0, 12);
+        }
+        for (int i = 0; i < parities; i++) {
+            c.parity(0, true);
+        }
+        int rows = c.about(2);
+        c.put(0, 11, -last[0]);
+        for (int i = rows; i < 500; i++) {
+            c.clause(0);
+        }
+        c.weight(c.about(0), 1000);
+        return c;
+    }
+
+    private static void recordBesideAFullCase() {
+        edge.of("31", "the CASE (500 at most, with 2,500 ITEMS in all); the RECORD (800 ROWS, 8,000 ITEMS in all)");
+        ClauseCourt c = ended(() -> filled(hard(6, 1, 1, 0), 0));
+        edge.is("ROWS of the CASE", 500, c.about(2));
+        edge.is("said", FULL, c.solved(0));
+        edge.is("ROWS of the RECORD", 800, c.solved(8));
+        edge.is("line(2799, -1)", 1, c.line(2799, -1) > 0 ? 1 : 0);
+        Supplier<ClauseCourt> make = () -> filled(hard(7, 3, 1, 0), 5);
+        ClauseCourt d = ended(make);
+        edge.is("ROWS of the CASE", 500, d.about(2));
+        edge.is("ITEMS of the CASE", 1529, d.about(3));
+        edge.is("said", FULL, d.solved(0));
+        int items = itemsLearnt(make);
+        edge.is("nearly 8,000 ITEMS: " + items, 1, items <= 8000 && items > 7950 ? 1 : 0);
     }
 
     private static void lastRowOfNo() {

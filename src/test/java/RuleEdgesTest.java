@@ -11,7 +11,9 @@ import java.util.function.ToLongFunction;
 /** Part 2 and promises 11 to 14, sentence by sentence: RULES of ROWS, what they are laid as, and when there are too many. */
 public final class RuleEdgesTest {
     private static final int BAD = ClauseCourt.BAD;
+    private static final int STATE = ClauseCourt.STATE;
     private static final int FULL = ClauseCourt.FULL;
+    private static final int NONE = ClauseCourt.NONE;
     private static final int NOTHING = ClauseCourt.NOTHING;
     private static final int BEYOND = ClauseCourt.BEYOND;
     private static final int MIN = Integer.MIN_VALUE;
@@ -195,6 +197,22 @@ public final class RuleEdgesTest {
         return all;
     }
 
+    /** A court is asked for 60 ROWS at most, as 512 calls are all that it is made for. */
+    private static void isLaidAs(String what, List<String> rows, int n, ToLongFunction<ClauseCourt> call) {
+        ClauseCourt c = paper(12, upTo(n));
+        edge.is(what, 0, call.applyAsLong(c));
+        edge.is(what + " is laid as so many ROWS", rows.size(), c.about(2));
+        for (int k = 0; k < rows.size(); k++) {
+            if (k > 0 && k % 60 == 0) {
+                c = paper(12, upTo(n));
+                call.applyAsLong(c);
+            }
+            edge.is(what + ", ROW " + k, rows.get(k), Hand.line(c, k));
+            edge.is(what + ", its number", k, c.rows(0, k));
+        }
+        edge.is(what + ", no ROW more", NONE, c.rows(0, rows.size()));
+    }
+
     private static void sumsLaid() {
         edge.of("12", "ATMOST with k: S(i, j). At last: if n is above k: -S(n, k + 1)");
         for (int n = 0; n <= 12; n++) {
@@ -202,7 +220,7 @@ public final class RuleEdgesTest {
                 int k = bound;
                 List<String> rows = sums(upTo(n), k, 12);
                 rows.remove(rows.size() - 1);
-                edge.is("most " + k + " of " + n, String.join("; ", rows), laid(12, c -> c.atMost(0, k), upTo(n)));
+                isLaidAs("most " + k + " of " + n, rows, n, c -> c.atMost(0, k));
             }
         }
         edge.is("none of one", "-1", laid(1, c -> c.atMost(0, 0), 1));
@@ -224,10 +242,7 @@ public final class RuleEdgesTest {
                 } else if (k > 0) {
                     rows.add(last);
                 }
-                ClauseCourt c = paper(12, upTo(n));
-                edge.is("group", 0, c.group(0, k));
-                edge.is("just " + k + " of " + n + " has so many ROWS", rows.size(), c.about(2));
-                edge.is("just " + k + " of " + n, String.join("; ", rows), Hand.laid(c, 0));
+                isLaidAs("just " + k + " of " + n, rows, n, c -> c.group(0, k));
             }
         }
         edge.is("one of one", "1", laid(1, c -> c.group(0, 1), 1));
@@ -292,7 +307,9 @@ public final class RuleEdgesTest {
     private static int solved(int places, ToLongFunction<ClauseCourt> call) {
         ClauseCourt c = withTrue(places);
         call.applyAsLong(c);
-        return c.solve(5000);
+        int said = c.solve(5000);
+        edge.is("HOLDS, as SOLVING said", said == 1 ? 1 : STATE, c.ask(0, 0));
+        return said;
     }
 
     private static void placesCounted() {

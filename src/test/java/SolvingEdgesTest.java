@@ -297,10 +297,10 @@ public final class SolvingEdgesTest {
         edge.refused("behind NO of next()", STATE, Scenes::lostByNext, c -> c.goOn(1));
         edge.refused("behind SPENT of next()", STATE, Scenes::spentByNext, c -> c.goOn(1));
         ClauseCourt full = Scenes.full();
-        String before = figures(full);
+        String before = Hand.solved(full) + Hand.quarrel(full) + full.weighs(1) + full.digest();
         edge.is("behind FULL", STATE, full.goOn(5000));
         edge.is("status() behind it", STATE, full.status());
-        edge.is("what must not have changed", before, figures(full));
+        edge.is("what must not have changed", before, Hand.solved(full) + Hand.quarrel(full) + full.weighs(1) + full.digest());
         edge.of("32", "by solve() or goOn()");
         ClauseCourt c = square();
         edge.is("solve(1)", SPENT, c.solve(1));

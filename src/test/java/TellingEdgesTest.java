@@ -63,12 +63,15 @@ public final class TellingEdgesTest {
     private static List<Long> gone(ClauseCourt c, Map<Integer, Integer> weights, int begin, int forget, List<Integer> counted,
             List<Integer> assumed) {
         List<Long> all = new ArrayList<>();
-        all.add((long) c.about(0));
-        for (int n = 1; n <= c.about(0); n++) {
+        int names = c.about(0);
+        int rows = c.about(2);
+        all.add((long) names);
+        for (int n = 1; n <= names; n++) {
             all.add((long) weights.getOrDefault(n, 0));
         }
-        for (int k = 0; k < c.about(2); k++) {
-            for (int i = 0; i < c.line(k, -1); i++) {
+        for (int k = 0; k < rows; k++) {
+            int items = c.line(k, -1);
+            for (int i = 0; i < items; i++) {
                 all.add((long) c.line(k, i));
             }
             all.add(0L);
@@ -86,7 +89,7 @@ public final class TellingEdgesTest {
         }
         all.add((long) begin);
         all.add((long) forget);
-        for (int n = 1; n <= c.about(0); n++) {
+        for (int n = 1; n <= names; n++) {
             all.add(counted.contains(n) ? 1L : 0L);
         }
         all.add((long) c.about(5));

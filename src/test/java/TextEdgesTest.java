@@ -1,3 +1,4 @@
+import java.util.Arrays;
 import java.util.Map;
 import java.util.function.Supplier;
 
@@ -25,6 +26,7 @@ public final class TextEdgesTest {
         numbersLookedFor();
         faultAheadOfNumbers();
         laidRows();
+        textsAreSo();
         itemsOnce();
         namesMet();
         itemsOfTexts();
@@ -128,6 +130,8 @@ public final class TextEdgesTest {
         edge.is("digest() behind " + text, digest, c.digest());
         edge.is("RULES behind " + text, 0, c.about(1));
         edge.is("TAPE behind " + text, 0, c.about(8));
+        edge.is("the next TEXT behind " + text, 0, told(c, "x2"));
+        edge.is("it is read anew", "2", Hand.laid(c, 0));
     }
 
     private static void well(String text) {
@@ -373,6 +377,41 @@ public final class TextEdgesTest {
         told(c, "j(" + EIGHT + ")");
         edge.is("j of 8 ROWS", 1 + 28 + 8 + 1, c.about(2));
         edge.is("j of 8 ITEMS", 9 + 3 * 28 + 9 * 8 + 1, c.about(3));
+    }
+
+    /** Each TEXT with those TRUTHS of 1, 2, 3 (1, 2 and 4 added) under which it is so. */
+    private static void textsAreSo() {
+        edge.of("15", "(not so), (all are so), (some), (just one), (the first is not so or the second is)");
+        so("x1", 1, 3, 5, 7);
+        so("!x1", 0, 2, 4, 6);
+        so("!!x1", 1, 3, 5, 7);
+        so("&(x1,x2,x3)", 7);
+        so("&(x2)", 2, 3, 6, 7);
+        so("|(x1,x2,x3)", 1, 2, 3, 4, 5, 6, 7);
+        so("!|(x1,x2,x3)", 0);
+        so("j(x1,x2,x3)", 1, 2, 4);
+        so("!j(x1,x2,x3)", 0, 3, 5, 6, 7);
+        so("j(x1,x1,x2)", 2, 6);
+        so("j(x1)", 1, 3, 5, 7);
+        so(">(x1,x2)", 0, 2, 3, 4, 6, 7);
+        so("!>(x1,x2)", 1, 5);
+        so(">(x1,!x1)", 0, 2, 4, 6);
+        so("&(!x1,>(x2,x3))", 0, 4, 6);
+        so("|(&(x1,x2),j(x2,x3))", 2, 3, 4, 5, 7);
+    }
+
+    private static void so(String text, int... truths) {
+        for (int all = 0; all < 8; all++) {
+            int one = all;
+            boolean is = Arrays.stream(truths).anyMatch(t -> t == one);
+            ClauseCourt c = Hand.withNames(3);
+            told(c, text);
+            for (int n = 1; n <= 3; n++) {
+                c.assume((all >> n - 1 & 1) == 1 ? n : -n);
+            }
+            edge.is(text + " under " + all, is ? 1 : 0, c.solve(100));
+            edge.is("HOLDS", is ? 1 : ClauseCourt.STATE, c.ask(0, 0));
+        }
     }
 
     private static void itemsOnce() {

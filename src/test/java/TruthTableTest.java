@@ -12,6 +12,7 @@ public final class TruthTableTest {
     private final List<int[]> rows = new ArrayList<>();
     private final List<Integer> assumed = new ArrayList<>();
     private int names;
+    private int allNames;
 
     private TruthTableTest(long seed) {
         random = new Random(seed);
@@ -54,7 +55,9 @@ public final class TruthTableTest {
                 court.clause(0);
             }
         }
-        for (int k = 0; k < court.about(2); k++) {
+        allNames = court.about(0);
+        int laid = court.about(2);
+        for (int k = 0; k < laid; k++) {
             int[] row = new int[court.line(k, -1)];
             for (int i = 0; i < row.length; i++) {
                 row[i] = court.line(k, i);
@@ -97,7 +100,7 @@ public final class TruthTableTest {
     }
 
     private boolean canBe(List<Integer> rowNumbers, List<Integer> items) {
-        for (int truths = 0; truths < 1 << court.about(0); truths++) {
+        for (int truths = 0; truths < 1 << allNames; truths++) {
             if (keepsAll(truths, rowNumbers, items)) {
                 return true;
             }
@@ -126,7 +129,7 @@ public final class TruthTableTest {
         due.is("solve", can ? 1 : 0, court.solve(5000));
         if (can) {
             int truths = 0;
-            for (int n = 1; n <= court.about(0); n++) {
+            for (int n = 1; n <= allNames; n++) {
                 truths |= court.truth(n) << n - 1;
             }
             due.is("the TRUTH keeps all", 1, keepsAll(truths, allRows(), assumed) ? 1 : 0);
@@ -170,16 +173,18 @@ public final class TruthTableTest {
     }
 
     private void neededAll() {
-        due.is("what is left can't be", 0, canBe(core(0), core(1)) ? 1 : 0);
-        for (int k = 0; k < court.core(0); k++) {
-            List<Integer> others = core(0);
+        List<Integer> coreRows = core(0);
+        List<Integer> coreItems = core(1);
+        due.is("what is left can't be", 0, canBe(coreRows, coreItems) ? 1 : 0);
+        for (int k = 0; k < coreRows.size(); k++) {
+            List<Integer> others = new ArrayList<>(coreRows);
             others.remove(k);
-            due.is("each ROW is needed", 1, canBe(others, core(1)) ? 1 : 0);
+            due.is("each ROW is needed", 1, canBe(others, coreItems) ? 1 : 0);
         }
-        for (int k = 0; k < court.core(1); k++) {
-            List<Integer> others = core(1);
+        for (int k = 0; k < coreItems.size(); k++) {
+            List<Integer> others = new ArrayList<>(coreItems);
             others.remove(k);
-            due.is("each ITEM is needed", 1, canBe(core(0), others) ? 1 : 0);
+            due.is("each ITEM is needed", 1, canBe(coreRows, others) ? 1 : 0);
         }
     }
 
@@ -192,7 +197,7 @@ public final class TruthTableTest {
             }
         }
         TreeSet<Integer> found = new TreeSet<>();
-        for (int truths = 0; truths < 1 << court.about(0); truths++) {
+        for (int truths = 0; truths < 1 << allNames; truths++) {
             if (keepsAll(truths, allRows(), new ArrayList<>())) {
                 found.add(truths & mask);
             }
