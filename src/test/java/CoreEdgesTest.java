@@ -43,6 +43,8 @@ public final class CoreEdgesTest {
         coresByAssumed();
         coresByContraries();
         coreOfTheLatest();
+        coreForgetsTheOneBefore();
+        coreOfFarRows();
         coresAt();
         coreStays();
         shrinksByHand();
@@ -213,6 +215,51 @@ public final class CoreEdgesTest {
         core("the next NO", c, "1 2", "2");
         Hand.clause(c, 3);
         core("the third", c, "2 3", "");
+    }
+
+    private static void coreForgetsTheOneBefore() {
+        edge.of("36", "SOURCES [of one SOLVING alone]");
+        ClauseCourt c = court(2, row(1), row(-1));
+        core("two ROWS", c, "0 1", "");
+        Hand.clause(c);
+        core("a ROW without ITEMS came since", c, "2", "");
+        ClauseCourt d = court(2, row(1, 2), row(1, -2));
+        d.assume(-1);
+        core("1 is LEARNT", d, "0 1", "-1");
+        Hand.clause(d, 1);
+        core("1 is FORCED by a ROW that came since", d, "2", "-1");
+    }
+
+    private static void idle(ClauseCourt c, int parities, int clauses) {
+        for (int i = 0; i < parities; i++) {
+            c.parity(0, true);
+        }
+        for (int i = 0; i < clauses; i++) {
+            c.clause(1);
+        }
+    }
+
+    /** A chain whose ROWS stand far apart among 500; PARITIES of 45 ROWS and CLAUSES of an ITEM and its CONTRARY are between. */
+    private static void coreOfFarRows() {
+        edge.of("37", "of its ROWS by numbers; ROWS of the CASE (500 at most)");
+        ClauseCourt c = Hand.withNames(18);
+        Hand.paper(c, 0, 7, 8, 9, 10, 11, 12, 13, 14, 15, 16, 17, 18);
+        Hand.paper(c, 1, 7, -7);
+        idle(c, 1, 18);
+        Hand.clause(c, 1);
+        Hand.clause(c, -1, 2);
+        Hand.clause(c, -2, 3);
+        idle(c, 1, 16);
+        Hand.clause(c, -3, 4);
+        Hand.clause(c, -4, 5);
+        idle(c, 7, 4);
+        Hand.clause(c, -5, 6);
+        idle(c, 1, 5);
+        Hand.clause(c, -6);
+        edge.is("about(2)", 500, c.about(2));
+        edge.is("about(1)", 60, c.about(1));
+        core("a chain", c, "63 64 65 127 128 448 499", "");
+        edge.is("shrink()", 7, c.shrink(5000));
     }
 
     private static void coresAt() {

@@ -31,6 +31,7 @@ public final class CountingEdgesTest {
         forcedAts();
         whys();
         forcedByTheCaseAlone();
+        forcesAllNames();
         edge.end();
     }
 
@@ -326,6 +327,39 @@ public final class CountingEdgesTest {
         edge.is("why(2)", NONE, c.why(2));
         Hand.clause(c, -1, -2);
         edge.is("why(2) now", 1, c.why(2));
+    }
+
+    /** Each ATMOST of 12 with 0 makes 11 NAMES and forces 23; NAME 300 is forced by a ROW of its own. */
+    private static ClauseCourt allForced() {
+        ClauseCourt c = new ClauseCourt();
+        for (int rule = 0; rule < 13; rule++) {
+            int names = c.names(12);
+            c.row(0, 12);
+            for (int i = 0; i < 12; i++) {
+                c.put(0, i, names - i);
+            }
+            c.atMost(0, 0);
+        }
+        c.names(1);
+        Hand.clause(c, -300, 1);
+        return c;
+    }
+
+    private static void forcesAllNames() {
+        edge.of("50", "NAMES, 300 at most: how many ITEMS it forces");
+        ClauseCourt c = allForced();
+        edge.is("about(0)", 300, c.about(0));
+        edge.is("forced()", 300, c.forced());
+        edge.is("forcedAt(299)", -300, c.forcedAt(299));
+        edge.is("forcedAt(300)", NONE, c.forcedAt(300));
+        edge.is("why(300)", c.about(2) - 1, c.why(300));
+        Hand.clause(c, 300, 2);
+        edge.is("a QUARREL behind all 300", NONE, c.forced());
+        edge.is("forcedAt(299)", -300, c.forcedAt(299));
+        edge.is("solve(299)", SPENT, c.solve(299));
+        edge.is("solve(300)", 0, c.solve(300));
+        c.take();
+        edge.is("check()", 1, c.check());
     }
 
     private static void forcedByTheCaseAlone() {

@@ -18,6 +18,7 @@ public final class LearningEdgesTest {
         rowsThatForceNothing();
         barredBehindCase();
         learntBehindBarred();
+        learntQuarrel();
         assumedTurns();
         latestTruths();
         setWithoutLevelNone();
@@ -34,7 +35,9 @@ public final class LearningEdgesTest {
         recordBesideAFullCase();
         lastRowOfNo();
         fullIsNoStep();
+        forgettingByUse();
         undoneWhicheverWay();
+        beginsAnewEachTime();
         edge.end();
     }
 
@@ -94,6 +97,12 @@ public final class LearningEdgesTest {
         edge.is("forcedAt(0)", NONE, d.forcedAt(0));
         edge.is("solve", 0, d.solve(1));
         edge.is("STEPS", 0, d.solved(1));
+        ClauseCourt e = court(1, row(), row(1));
+        edge.is("also as the first ROW", NONE, e.forced());
+        edge.is("forcedAt(0)", NONE, e.forcedAt(0));
+        edge.is("why(1)", NONE, e.why(1));
+        edge.is("solve", 0, e.solve(1));
+        edge.is("quarrel", "0 0 0 0 0", Hand.quarrel(e));
     }
 
     private static void firstQuarrel() {
@@ -153,6 +162,29 @@ public final class LearningEdgesTest {
         edge.is("LEARNT", "2 1", Hand.line(c, 2000));
         edge.is("LEARNT", "-2", Hand.line(c, 2001));
         edge.is("the first by ORDER", "1000 0 0 0 0", Hand.quarrel(c));
+    }
+
+    /**
+     * -1, -2 are DECIDED, ROW 1 forces 3, ROW 3 quarrels: 2 1 is learnt. It forces 2, ROW 2 3, ROW 4 quarrels: -2 is learnt. It is
+     * FORCED, then -1 by ROW 0: and ROW 2000 quarrels.
+     */
+    private static void learntQuarrel() {
+        edge.of("35", "ROWS are told by numbers: .. LEARNT 2000 and more");
+        ClauseCourt c = court(3, row(-1, 2), row(3, 2), row(3, -2), row(1, -3, 2), row(-2, -3));
+        edge.is("solve", 0, c.solve(9));
+        edge.is("solved", "0 9 5 2 2 0 0 2 3 2", Hand.solved(c));
+        edge.is("quarrel", "2000 0 0 0 0", Hand.quarrel(c));
+        edge.is("its SOURCES", "0 1 2 3 4", Hand.core(c, 0));
+        int greatest = 0;
+        int said = SPENT;
+        for (int steps = 1; said == SPENT; steps++) {
+            ClauseCourt d = Scenes.pigeons(5, 4);
+            said = d.solve(steps);
+            int row = d.quarrel(0);
+            greatest = Math.max(greatest, row);
+            edge.is("a ROW that there is: " + row, 1, row == NONE || row >= 0 && row < d.about(2) || row >= 2000 && d.line(row, -1) >= 0 ? 1 : 0);
+        }
+        edge.is("some were LEARNT ones behind the first", 1, greatest > 2000 ? 1 : 0);
     }
 
     // ---- the turns
@@ -285,7 +317,11 @@ public final class LearningEdgesTest {
 
     private static void weightsAreDivided() {
         edge.of("28", "if a WEIGHT is above 1000000000000, each WEIGHT and RISE are divided by 1048576 (cut)");
-        Supplier<ClauseCourt> make = () -> Scenes.pigeons(7, 6);
+        Supplier<ClauseCourt> make = () -> {
+            ClauseCourt c = Scenes.pigeons(7, 6);
+            c.weight(c.about(0), 1000);
+            return c;
+        };
         int first = 160;
         long[] before = weights(behindLearning(make, first));
         long[] behind = before;
@@ -314,6 +350,7 @@ public final class LearningEdgesTest {
             again += then[n] == behind[n] + divided ? 1 : 0;
         }
         edge.is("RISE is divided, too", next.quarrel(3), again);
+        edge.is("the last NAME's WEIGHT is divided, too", 1, behind[behind.length - 1] < before[before.length - 1] ? 1 : 0);
         edge.is("before that none was divided", 1, heaviest(before) > heaviest(weights(behindLearning(make, first - 5))) ? 1 : 0);
     }
 
@@ -555,6 +592,74 @@ public final class LearningEdgesTest {
         edge.is("STEPS", full.solved(1), full.solved(2) + full.solved(3) + full.solved(4));
         edge.is("quarrel", Hand.quarrel(spent), Hand.quarrel(full));
         edge.is("WEIGHTS", Arrays.toString(weights(spent)), Arrays.toString(weights(full)));
+    }
+
+    private static String figures(ClauseCourt c) {
+        return Hand.solved(c) + " / " + Hand.quarrel(c) + Arrays.toString(weights(c)) + Hand.line(c, 2000) + Hand.line(c, 2005);
+    }
+
+    private static void beginsAnewEachTime() {
+        edge.of("31", "SOLVING begins with all NAMES open, LEVEL 0, no LEARNT ROWS, WEIGHTS as weight() told them, RISE 64");
+        for (int u = 0; u <= 4; u++) {
+            int begin = u;
+            Supplier<ClauseCourt> make = () -> {
+                ClauseCourt c = Scenes.pigeons(5, 4);
+                c.begin(begin);
+                c.forget(3);
+                return c;
+            };
+            ClauseCourt once = make.get();
+            once.solve(5000);
+            String wanted = figures(once);
+            for (int steps = 40; steps <= 240; steps += 25) {
+                ClauseCourt c = make.get();
+                c.solve(steps);
+                c.solve(5000);
+                edge.is("begin(" + begin + "), behind solve(" + steps + ")", wanted, figures(c));
+            }
+        }
+    }
+
+    /** Which ones go is seen by what comes behind it alone: so it is compared with the document's second writing. */
+    private static void forgettingByUse() {
+        edge.of("30", "in order of USE, the least first, of like ones by numbers; then USE of each that stays becomes half");
+        for (int forget = 1; forget <= 12; forget++) {
+            for (int begin = 0; begin <= 2; begin++) {
+                ClauseCourt c = Scenes.pigeons(5, 4);
+                PlainCourt plain = plainPigeons(5, 4);
+                c.begin(begin);
+                plain.begin(begin);
+                c.forget(forget);
+                plain.forget(forget);
+                edge.is("solve", plain.solve(5000), c.solve(5000));
+                for (int what = 0; what <= 9; what++) {
+                    edge.is("forget(" + forget + "), begin(" + begin + "), solved(" + what + ")", plain.solved(what), c.solved(what));
+                }
+                for (int n = 1; n <= 20; n++) {
+                    edge.is("weighs(" + n + ")", plain.weighs(n), c.weighs(n));
+                }
+            }
+        }
+    }
+
+    private static PlainCourt plainPigeons(int birds, int holes) {
+        PlainCourt c = new PlainCourt();
+        c.names(birds * holes);
+        c.row(0, holes);
+        for (int b = 0; b < birds; b++) {
+            for (int h = 0; h < holes; h++) {
+                c.put(0, h, b * holes + h + 1);
+            }
+            c.clause(0);
+        }
+        c.row(0, birds);
+        for (int h = 0; h < holes; h++) {
+            for (int b = 0; b < birds; b++) {
+                c.put(0, b, b * holes + h + 1);
+            }
+            c.atMost(0, 1);
+        }
+        return c;
     }
 
     private static void undoneWhicheverWay() {
