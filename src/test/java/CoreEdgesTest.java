@@ -50,6 +50,7 @@ public final class CoreEdgesTest {
         shrinksByHand();
         shrinkSpent();
         shrinkWithAsMuchTold();
+        shrinkBeginsAnewAndForgets();
         leastByHand();
         leastSpent();
         leastOfTen();
@@ -369,6 +370,37 @@ public final class CoreEdgesTest {
         edge.is("shrink(8)", 2, c.shrink(8));
         edge.is("least(): none 4, either alone 4, both 1", SPENT, c.least(12));
         edge.is("least(13)", 2, c.least(13));
+    }
+
+    /** BEGINNING ANEW and FORGETTING go on in each SOLVING: compared with the document's second writing. */
+    private static void shrinkBeginsAnewAndForgets() {
+        edge.of("38", "with as much told [by begin() and forget(), too]");
+        int went = 0;
+        for (int i = 1; i <= 8; i++) {
+            ClauseCourt c = Scenes.pigeons(5, 4);
+            PlainCourt plain = Scenes.plainPigeons(5, 4);
+            c.row(0, 3);
+            plain.row(0, 3);
+            int[] items = {i, i + 6, -i - 11};
+            for (int k = 0; k < 3; k++) {
+                c.put(0, k, items[k]);
+                plain.put(0, k, items[k]);
+            }
+            edge.is("parity", plain.parity(0, i % 2 == 0), c.parity(0, i % 2 == 0));
+            for (int v : new int[] {1, -2, i % 3 == 0 ? 6 : -12}) {
+                c.assume(v);
+                plain.assume(v);
+            }
+            edge.is("begin", plain.begin(i % 3), c.begin(i % 3));
+            edge.is("forget", plain.forget(1 + i % 4), c.forget(1 + i % 4));
+            edge.is("solve", plain.solve(5000), c.solve(5000));
+            int before = c.core(0) + c.core(1);
+            edge.is("shrink() " + i, plain.shrink(5000), c.shrink(5000));
+            edge.is("core(0)", plain.core(0), c.core(0));
+            edge.is("core(1)", plain.core(1), c.core(1));
+            went += before - c.core(0) - c.core(1);
+        }
+        edge.is("something went", 1, went > 0 ? 1 : 0);
     }
 
     // ---- least()

@@ -36,6 +36,7 @@ public final class LearningEdgesTest {
         lastRowOfNo();
         fullIsNoStep();
         forgettingByUse();
+        useBeginsAnew();
         undoneWhicheverWay();
         beginsAnewEachTime();
         edge.end();
@@ -182,7 +183,8 @@ public final class LearningEdgesTest {
             said = d.solve(steps);
             int row = d.quarrel(0);
             greatest = Math.max(greatest, row);
-            edge.is("a ROW that there is: " + row, 1, row == NONE || row >= 0 && row < d.about(2) || row >= 2000 && d.line(row, -1) >= 0 ? 1 : 0);
+            boolean there = row >= 0 && row < d.about(2) || row >= 2000 && d.line(row, -1) >= 0;
+            edge.is("a ROW that there is: " + row, 1, row == NONE || there ? 1 : 0);
         }
         edge.is("some were LEARNT ones behind the first", 1, greatest > 2000 ? 1 : 0);
     }
@@ -226,7 +228,7 @@ public final class LearningEdgesTest {
     }
 
     private static void latestTruths() {
-        edge.of("31", "the LATEST TRUTH of each NAME 0 [at first]; all of greater LEVELS are open again, their TRUTHS are their LATEST ones");
+        edge.of("31", "the LATEST TRUTH of each NAME 0; all of greater LEVELS are open again, their TRUTHS are their LATEST ones");
         ClauseCourt c = learns();
         c.solve(9);
         edge.is("2 was TRUE when it was undone", 1, c.truth(2));
@@ -620,13 +622,30 @@ public final class LearningEdgesTest {
         }
     }
 
+    private static void useBeginsAnew() {
+        edge.of("30", "the NEW ROW comes as the next LEARNT ROW, USE 0");
+        for (int told = 1; told <= 8; told++) {
+            int forget = told;
+            ClauseCourt once = Scenes.pigeons(5, 4);
+            once.begin(1);
+            once.forget(forget);
+            once.solve(5000);
+            ClauseCourt twice = Scenes.pigeons(5, 4);
+            twice.solve(5000);
+            twice.begin(1);
+            twice.forget(forget);
+            twice.solve(5000);
+            edge.is("forget(" + forget + ") behind a SOLVING without it", figures(once), figures(twice));
+        }
+    }
+
     /** Which ones go is seen by what comes behind it alone: so it is compared with the document's second writing. */
     private static void forgettingByUse() {
         edge.of("30", "in order of USE, the least first, of like ones by numbers; then USE of each that stays becomes half");
         for (int forget = 1; forget <= 12; forget++) {
             for (int begin = 0; begin <= 2; begin++) {
                 ClauseCourt c = Scenes.pigeons(5, 4);
-                PlainCourt plain = plainPigeons(5, 4);
+                PlainCourt plain = Scenes.plainPigeons(5, 4);
                 c.begin(begin);
                 plain.begin(begin);
                 c.forget(forget);
@@ -640,26 +659,6 @@ public final class LearningEdgesTest {
                 }
             }
         }
-    }
-
-    private static PlainCourt plainPigeons(int birds, int holes) {
-        PlainCourt c = new PlainCourt();
-        c.names(birds * holes);
-        c.row(0, holes);
-        for (int b = 0; b < birds; b++) {
-            for (int h = 0; h < holes; h++) {
-                c.put(0, h, b * holes + h + 1);
-            }
-            c.clause(0);
-        }
-        c.row(0, birds);
-        for (int h = 0; h < holes; h++) {
-            for (int b = 0; b < birds; b++) {
-                c.put(0, b, b * holes + h + 1);
-            }
-            c.atMost(0, 1);
-        }
-        return c;
     }
 
     private static void undoneWhicheverWay() {

@@ -132,6 +132,27 @@ final class Scenes {
         return c;
     }
 
+    /** The same of the document's second writing. */
+    static PlainCourt plainPigeons(int birds, int holes) {
+        PlainCourt c = new PlainCourt();
+        c.names(birds * holes);
+        c.row(0, holes);
+        for (int b = 0; b < birds; b++) {
+            for (int h = 0; h < holes; h++) {
+                c.put(0, h, b * holes + h + 1);
+            }
+            c.clause(0);
+        }
+        c.row(0, birds);
+        for (int h = 0; h < holes; h++) {
+            for (int b = 0; b < birds; b++) {
+                c.put(0, b, b * holes + h + 1);
+            }
+            c.atMost(0, 1);
+        }
+        return c;
+    }
+
     /** Those that are small enough to be made again and again, by what they are called. */
     static Map<String, Supplier<ClauseCourt>> all() {
         Map<String, Supplier<ClauseCourt>> scenes = new LinkedHashMap<>();
